@@ -433,7 +433,7 @@ public final class FigureTexts {
         }
 
         void put(char c) {
-            if (inside(length, bytes.length)) {
+            if (length >= 0 && length < bytes.length) {
                 bytes[length] = (byte) c;
                 length++;
             }
@@ -508,7 +508,7 @@ public final class FigureTexts {
         }
 
         int byteAt(int i) {
-            return inside(i, length) && i < text.length ? text[i] & 255 : NONE;
+            return i >= 0 && i < length && i < text.length ? text[i] & 255 : NONE;
         }
 
         /** NONE without room. */
@@ -530,64 +530,64 @@ public final class FigureTexts {
         }
 
         void become(int n, int typed, int holds) {
-            if (inside(n, nodes)) {
+            if (n >= 0 && n < nodes) {
                 type[n] = typed;
                 data[n] = holds;
             }
         }
 
         void hang(int n, int child) {
-            if (inside(n, nodes)) {
+            if (n >= 0 && n < nodes) {
                 first[n] = child;
             }
         }
 
         void follow(int n, int sibling) {
-            if (inside(n, nodes)) {
+            if (n >= 0 && n < nodes) {
                 next[n] = sibling;
             }
         }
 
         void hangBlock(int n, int deed) {
-            if (inside(n, nodes)) {
+            if (n >= 0 && n < nodes) {
                 body[n] = deed;
             }
         }
 
         /** The data of an if says that an else was told: its block may have no deed. */
         void hangElse(int n, int deed) {
-            if (inside(n, nodes)) {
+            if (n >= 0 && n < nodes) {
                 other[n] = deed;
                 data[n] = 1;
             }
         }
 
         int typeOf(int n) {
-            return inside(n, nodes) ? type[n] : NONE;
+            return n >= 0 && n < nodes ? type[n] : NONE;
         }
 
         int atOf(int n) {
-            return inside(n, nodes) ? at[n] : NONE;
+            return n >= 0 && n < nodes ? at[n] : NONE;
         }
 
         int dataOf(int n) {
-            return inside(n, nodes) ? data[n] : NONE;
+            return n >= 0 && n < nodes ? data[n] : NONE;
         }
 
         int firstOf(int n) {
-            return inside(n, nodes) ? first[n] : NONE;
+            return n >= 0 && n < nodes ? first[n] : NONE;
         }
 
         int nextOf(int n) {
-            return inside(n, nodes) ? next[n] : NONE;
+            return n >= 0 && n < nodes ? next[n] : NONE;
         }
 
         int bodyOf(int n) {
-            return inside(n, nodes) ? body[n] : NONE;
+            return n >= 0 && n < nodes ? body[n] : NONE;
         }
 
         int otherOf(int n) {
-            return inside(n, nodes) ? other[n] : NONE;
+            return n >= 0 && n < nodes ? other[n] : NONE;
         }
 
         int namesIn(int scope) {
@@ -654,42 +654,32 @@ public final class FigureTexts {
             return inside(macro, macros) ? macroBody[macro] : NONE;
         }
 
-        /** Letters and digits from there on. */
-        int wordEnd(int word) {
-            int end = word;
-            for (int i = 0; i < MOST_WORD && inside(end, length); i++) {
-                int b = text[end];
-                if ((b < 'a' || b > 'z') && (b < '0' || b > '9')) {
-                    break;
-                }
-                end++;
-            }
-            return end;
+        /** A letter or digit of a TOKEN; 0 for all else. */
+        int letterAt(int i) {
+            int b = i >= 0 && i < length && i < text.length ? text[i] : 0;
+            return b >= 'a' && b <= 'z' || b >= '0' && b <= '9' ? b : 0;
         }
 
         boolean sameWord(int one, int two) {
-            int size = wordEnd(one) - one;
-            if (one < 0 || two < 0 || size != wordEnd(two) - two) {
-                return false;
-            }
-            for (int i = 0; i < size; i++) {
-                if (text[one + i] != text[two + i]) {
+            for (int i = 0; i < MOST_WORD; i++) {
+                int letter = letterAt(one + i);
+                if (letter != letterAt(two + i)) {
                     return false;
+                }
+                if (letter == 0) {
+                    return true;
                 }
             }
             return true;
         }
 
         boolean isWord(int word, String wanted) {
-            if (word < 0 || wordEnd(word) - word != wanted.length()) {
-                return false;
-            }
             for (int i = 0; i < wanted.length(); i++) {
-                if (text[word + i] != wanted.charAt(i)) {
+                if (letterAt(word + i) != wanted.charAt(i)) {
                     return false;
                 }
             }
-            return true;
+            return letterAt(word + wanted.length()) == 0;
         }
     }
 
@@ -724,7 +714,11 @@ public final class FigureTexts {
             faultAt = NONE;
             next();
             for (int i = 0; i < TAPE_ROOM && kind == WORD && figure.isWord(at, "macro"); i++) {
-                macro();
+                int word = header();
+                int body = block();
+                if (fault == 0) {
+                    figure.endMacro(word, body);
+                }
             }
             scope = FIGURE_SCOPE;
             figure.firstDeed = deeds();
@@ -839,31 +833,25 @@ public final class FigureTexts {
             return NONE;
         }
 
-        private void macro() {
+        /** A macro up to its block: where its NAME stands. */
+        private int header() {
             next();
             int word = at;
             if (!isName()) {
                 noteFault(misplaced(), at);
-                return;
-            }
-            if (figure.macros >= MOST_MACROS) {
+            } else if (figure.macros >= MOST_MACROS) {
                 noteFault(FAULT_MANY, at);
-                return;
-            }
-            if (toolNumber(figure, word) != NONE || figure.macroNumber(word) != NONE) {
+            } else if (toolNumber(figure, word) != NONE || figure.macroNumber(word) != NONE) {
                 noteFault(FAULT_TWICE, at);
-                return;
+            } else {
+                scope = figure.macros;
+                next();
+                want('(');
+                params();
+                want(')');
+                figure.endHeader(scope);
             }
-            scope = figure.macros;
-            next();
-            want('(');
-            params();
-            want(')');
-            figure.endHeader(scope);
-            int body = block();
-            if (fault == 0) {
-                figure.endMacro(word, body);
-            }
+            return word;
         }
 
         private void params() {
@@ -1163,9 +1151,8 @@ public final class FigureTexts {
         }
 
         private void putWord(int word) {
-            int end = figure.wordEnd(word);
-            for (int i = word; i < end; i++) {
-                out.put((char) figure.byteAt(i));
+            for (int i = word; i < word + MOST_WORD && figure.letterAt(i) != 0; i++) {
+                out.put((char) figure.letterAt(i));
             }
         }
 
@@ -1506,7 +1493,8 @@ public final class FigureTexts {
         }
 
         long partOf(int thing, int part) {
-            return inside(thing, many) && inside(part, MOST_PARTS) ? parts[thing * MOST_PARTS + part] : Reckoner.NOUGHT;
+            boolean there = thing >= 0 && thing < many && part >= 0 && part < MOST_PARTS;
+            return there ? parts[thing * MOST_PARTS + part] : Reckoner.NOUGHT;
         }
 
         int wholeOf(int thing, int part) {
@@ -1514,7 +1502,7 @@ public final class FigureTexts {
         }
 
         int kindOf(int thing) {
-            return inside(thing, many) ? kinds[thing] : NONE;
+            return thing >= 0 && thing < many ? kinds[thing] : NONE;
         }
 
         int partsOf(int thing) {
@@ -2293,7 +2281,7 @@ public final class FigureTexts {
         }
 
         private void pushValue(int thing) {
-            if (inside(values, ROOM)) {
+            if (values >= 0 && values < ROOM) {
                 value[values] = thing;
                 values++;
             }
@@ -2306,7 +2294,7 @@ public final class FigureTexts {
         }
 
         private void drop() {
-            if (inside(top, ROOM)) {
+            if (top >= 0 && top < ROOM) {
                 values = floor[top];
                 top--;
             }
