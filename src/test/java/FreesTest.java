@@ -1,6 +1,6 @@
 /** Promises 7 (move), 8 (loose), 13 (leans), and section 5 of the document: FREES, RUNS of a life. */
 public final class FreesTest {
-    private static final int NONE = FigureTexts.NONE, OUTSIDE = FigureTexts.OUTSIDE, STATE = FigureTexts.STATE, SPENT = FigureTexts.SPENT;
+    private static final int OUTSIDE = FigureTexts.OUTSIDE, STATE = FigureTexts.STATE, SPENT = FigureTexts.SPENT;
     private static final Due DUE = new Due("FreesTest");
 
     public static void main(String[] args) {
@@ -186,6 +186,12 @@ public final class FreesTest {
         DUE.is("RUNS", y.count(6), 599);
         DUE.is("the 600th", y.run(), 1);
         DUE.is("the 601st", y.run(), SPENT);
-        DUE.is("NONE is no answer of it", y.run() != NONE, true);
+        FigureTexts z = Due.run("draw free(1,1);state 1;");
+        for (int i = 0; i < 29; i++) {
+            z.tried(i, 20, 0);
+        }
+        DUE.is("20 RUNS more than 581", z.tried(1, 20, 0), SPENT);
+        DUE.is("19 RUNS more than 581", z.tried(1, 19, 0), 19);
+        DUE.is("RUNS", z.count(6), 600);
     }
 }

@@ -15,6 +15,7 @@ public final class ReadTest {
         about();
         faultChangesNothing();
         readingAnew();
+        readingOften();
         DUE.end();
     }
 
@@ -318,5 +319,27 @@ public final class ReadTest {
         DUE.is("nothing is MOVED (11)", x.loose(11), 0);
         x.run();
         DUE.is("the new figure", Due.drawn(x), "(5, 6)");
+    }
+
+    /** What an earlier text left behind, faulty or not, is not seen in a later one. */
+    private static void readingOften() {
+        FigureTexts x = new FigureTexts();
+        String[] texts = {"macro f(p,q){a=p;if q{give a;}else{give q;}}macro g(){}a=f(1,0);b=g();draw a;times 2{state a;}",
+            "a=" + Due.times(11, "(") + "1", "macro f(p,p){}", "if 1{draw 2;}", "draw 1;if 0{}draw 3;", "macro h(z){z=z;give z;}draw h(4);",
+            "if 1{if 1{if 1{draw ((((((1", "", "macro f(){}a=1;b=a;draw b;"};
+        int[] answers = {20, -3, -4, 4, 6, 7, -2, 0, 6};
+        String[] drawn = {"0", "0", "0", "2", "1 3", "4", "4", "", "1"};
+        int[][] about = {{2, 20, 9, 2}, {2, 20, 9, 2}, {2, 20, 9, 2}, {0, 4, 2, 0}, {0, 6, 3, 0}, {1, 7, 3, 0}, {1, 7, 3, 0}, {0, 0, 0, 0}, {1, 6, 3, 2}};
+        for (int round = 0; round < 3; round++) {
+            for (int i = 0; i < texts.length; i++) {
+                Due.feed(x, texts[i]);
+                DUE.is("read() often of " + texts[i], x.read(), answers[i]);
+                for (int what = 0; what < 4; what++) {
+                    DUE.is("about(" + what + ") behind " + texts[i], x.about(what), about[i][what]);
+                }
+                x.run();
+                DUE.is("drawn behind " + texts[i], Due.drawn(x), drawn[i]);
+            }
+        }
     }
 }

@@ -17,6 +17,7 @@ public final class RunTest {
         steps();
         spentBySteps();
         spentByFalls();
+        runningBehindSpent();
         roomForTold();
         roomWithinTold();
         counts();
@@ -217,6 +218,26 @@ public final class RunTest {
         DUE.is("fall(12, 0)", y.fall(12, 0), NONE);
         FigureTexts z = Due.run("times 11{a=1/0;}if 1/0{}else{draw 1;}");
         DUE.is("an if that falls as the 12th", z.count(0), 0);
+    }
+
+    /** A RUN that ended SPENT, deep in macros and exps, leaves nothing behind for later ones. */
+    private static void runningBehindSpent() {
+        String text = "macro g(p){times p{}give p;}" + chain(6) + "macro f(p){n=4;give 1+(2+(n+mf()*g(p)));}"
+            + "a=free(1,0);b=7;draw 1+f(x(a))+b;state is(b,7);";
+        FigureTexts x = Due.read(text);
+        DUE.is("first", x.run(), 1);
+        DUE.is("what it draws", Due.drawn(x), "21");
+        for (int i = 0; i < 100; i++) {
+            x.move(0, 999, 0, 1);
+            DUE.is("SPENT", x.run(), NONE);
+            DUE.is("nothing is DRAWN", x.count(0), 0);
+        }
+        x.loose(0);
+        DUE.is("behind them", x.run(), 1);
+        DUE.is("it is not SPENT", x.count(5), 0);
+        DUE.is("what it draws", Due.drawn(x), "21");
+        DUE.is("what it states", Due.stated(x), "1");
+        DUE.is("its FALLS", x.count(2), 0);
     }
 
     private static void roomForTold() {

@@ -110,7 +110,10 @@ public final class ToolsTest {
         makes("invert(p,d)", 1, "(5, 10)");
         makes("invert(point(3,4),d)", "(3, 4)");
         fails("invert(o,d)", ZERO, 0);
+        makes("invert(q,round(point(1,3),9))", "(5/2, 9/2)");
         makes("centre(round(q,1))", 1, "(4, 6)");
+        makes("meet(line(centre(round(q,1)),mid(o,r)),m)", "(34/13, 0)");
+        makes("dist(centre(d),mid(p,q))", "89/4");
         makes("end(s,0)", 1, "(1, 2)");
         makes("end(s,1)", "(4, 6)");
         makes("end(seg(q,p),0)", "(4, 6)");
@@ -170,6 +173,7 @@ public final class ToolsTest {
         makes("area(p,r,q)", "25");
         makes("power(q,d)", 0, "27");
         makes("power(o,d)", "-25");
+        makes("power(q,round(point(1,3),7))", "11");
         makes("x(q)", 0, "4");
         makes("y(q)", "6");
         makes("slope(l)", 0, "4/3");
@@ -207,6 +211,12 @@ public final class ToolsTest {
         makes("cut(line(o,point(3,-4)),d,1)", "(3, -4)");
         makes("cut(line(o,point(3,-4)),d,0)", "(-3, 4)");
         makes("cut(m,round(o,1/4),1)", "(1/2, 0)");
+        makes("cut(m,round(point(7,3),25),0)", "(3, 0)");
+        makes("cut(m,round(point(7,3),25),1)", "(11, 0)");
+        makes("cut(v,round(point(3,7),25),0)", "(0, 3)");
+        makes("cut(v,round(point(3,7),25),1)", "(0, 11)");
+        makes("cut(l,round(p,25),1)", "(4, 6)");
+        makes("cut(s,round(p,25),0)", "(-2, -2)");
         fails("cut(par(point(0,6),m),d,0)", ABSENT, 0);
         fails("cut(m,round(o,2),0)", ABSENT, 0);
         fails("cut(m,round(o,1/2),0)", ABSENT, 0);
@@ -234,6 +244,8 @@ public final class ToolsTest {
         makes("on(point(0,5),seg(o,point(0,4)))", "0");
         makes("on(point(3,4),d)", "1");
         makes("on(point(3,3),d)", "0");
+        makes("on(point(4,7),round(point(1,3),25))", "1");
+        makes("on(point(4,7),round(point(3,1),25))", "0");
         fails("on(p,q)", CAST, 0);
         fails("on(p,1)", CAST, 0);
         fails("on(p,w)", CAST, 0);
@@ -260,6 +272,9 @@ public final class ToolsTest {
         makes("flat(l,s)", 0, "1");
         makes("flat(l,m)", "0");
         makes("flat(m,par(p,m))", "1");
+        makes("flat(m,l)", "0");
+        makes("flat(v,l)", "0");
+        makes("flat(l,line(o,point(6,8)))", "1");
         makes("right(m,v)", 0, "1");
         makes("right(l,perp(o,l))", "1");
         makes("right(l,m)", "0");
@@ -339,6 +354,7 @@ public final class ToolsTest {
         fails("mirror(o,line(point(999999999,0),point(999999999,1)))", LOST, 0);
         fails("cut(par(point(0,99999),m),d,0)", LOST, 0);
         fails("cut(par(point(0,9999),m),d,0)", ABSENT, 0);
+        fails("cut(par(point(0,15625/15624),line(o,point(31249,1))),round(o,1/31249),0)", LOST, 0);
         fails("polar(point(999999999,0),round(point(-999999999,0),1))", LOST, 0);
     }
 }
