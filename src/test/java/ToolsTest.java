@@ -113,7 +113,7 @@ public final class ToolsTest {
         makes("invert(q,round(point(1,3),9))", "(5/2, 9/2)");
         makes("centre(round(q,1))", 1, "(4, 6)");
         makes("meet(line(centre(round(q,1)),mid(o,r)),m)", "(34/13, 0)");
-        makes("dist(centre(d),mid(p,q))", "89/4");
+        makes("mid(mid(p,q),centre(d))", "(5/4, 2)");
         makes("end(s,0)", 1, "(1, 2)");
         makes("end(s,1)", "(4, 6)");
         makes("end(seg(q,p),0)", "(4, 6)");
