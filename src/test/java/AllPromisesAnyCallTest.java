@@ -1,24 +1,34 @@
-/** All promises: by calls with drawn texts and numbers, no call throws but as told, and refused calls change nothing. */
-public final class AnyCallTest {
-    private static final Due DUE = new Due("AnyCallTest");
+/** All promises, by drawn texts and numbers: no call throws but as told, refused calls change nothing, each print is read so again. */
+public final class AllPromisesAnyCallTest {
+    private static final Due DUE = new Due("All promises, any call");
     private static final String[] PIECES = {"macro ", "if ", "else ", "times ", "state ", "draw ", "give ", "a", "b", "c", "f", "p", "q",
         "0", "1", "2", "3", "999999999", ";", ";", ";", ",", "=", "=", "<", "+", "-", "*", "/", "(", ")", "[", "]", "{", "}",
         "x(", "mid(", "point(", "line(", "seg(", "row(", "free(", "ring(", "cut(", "a=", "b=", "draw a;", "a=free(1,2);", "b=row(3);",
         "b[1]=a;", "draw b[1];", "f(", "macro f(p){give p;}", "macro g(){", "times 3{", "if a{", "}else{", "\n", " ", "$", "state 1;",
         "draw 1/0;", "times 99{a=free(1,1);}", "state is(a,a);", "c=line(a,point(3,4));", "draw foot(a,c);", "draw meet(c,c);"};
+    private static final String[] DEEDS = {"draw a;", "draw b;", "state x(a);", "c=line(a,b);", "draw c;", "draw foot(b,c);", "w=row(2);w[1]=a;draw w[1];",
+        "times 3{draw -(1-(2-x(a)));}", "if x(a)<y(b){draw 1;}else{state (1=2)=0;}", "d=circle(a,b);draw cut(c,d,1);", "draw 1/(x(a)-1)*(2/3);",
+        "draw ring(a,b,point(7,-1/3));", "draw f(a,b);", "state on(b,c);", "times 2{if 1/0{}else{}}", "draw --x(b)+-1;"};
     private static final int[] EDGES = {Integer.MIN_VALUE, Integer.MAX_VALUE, -1, 0, 1, 2, 3, 5, 11, 12, 19, 20, 21, 40, 250, 2999, 3000,
         1000000000, 1000000001, -1000000000, 0x61616161, 0x20202020};
 
     private long seed;
 
-    private AnyCallTest(long seed) {
+    private AllPromisesAnyCallTest(long seed) {
         this.seed = seed;
     }
 
     public static void main(String[] args) {
-        for (int i = 1; i <= 400; i++) {
-            new AnyCallTest(i * 7919L).life();
-        }
+        DUE.holds("no call throws but as told; refused calls change nothing", () -> {
+            for (int i = 1; i <= 1500; i++) {
+                new AllPromisesAnyCallTest(i * 7919L).anyCalls();
+            }
+        });
+        DUE.holds("what is printed is read so again, runs so again", () -> {
+            for (int i = 1; i <= 300; i++) {
+                new AllPromisesAnyCallTest(i * 104729L).printedAgain();
+            }
+        });
         DUE.end();
     }
 
@@ -31,40 +41,29 @@ public final class AnyCallTest {
         return EDGES[draw(EDGES.length)];
     }
 
-    private String text() {
+    private String text(String[] pieces, int most) {
         StringBuilder text = new StringBuilder();
-        int pieces = draw(60);
-        for (int i = 0; i < pieces; i++) {
-            text.append(PIECES[draw(PIECES.length)]);
+        int many = draw(most);
+        for (int i = 0; i < many; i++) {
+            text.append(pieces[draw(pieces.length)]);
         }
         return text.toString();
     }
 
-    private void life() {
+    private void anyCalls() {
         FigureTexts x = new FigureTexts();
-        for (int i = 0; i < 12; i++) {
+        for (int i = 0; i < 3; i++) {
             x.cut(0);
-            Due.feed(x, i % 3 == 0 ? "a=free(1,2);b=row(3);" + text() : "a=free(1,2);draw a;state x(a);" + text() + ";");
+            Due.feed(x, i % 3 == 0 ? "a=free(1,2);b=row(3);" + text(PIECES, 30) : "a=free(1,2);draw a;state x(a);" + text(PIECES, 30) + ";");
             if (x.read() < 0 && i % 2 == 0) {
                 Due.feed(x, "a=free(1,2);c=free(x(a),1/0);draw a;state x(a)-1;draw line(a,point(0,0));");
                 x.read();
             }
             x.run();
-            for (int j = 0; j < 20; j++) {
+            for (int j = 0; j < 3; j++) {
                 call(x, draw(22), edge(), edge(), edge(), edge());
             }
         }
-    }
-
-    private static String state(FigureTexts x) {
-        StringBuilder state = new StringBuilder();
-        for (int what = 0; what <= 8; what++) {
-            state.append(x.count(what)).append(' ');
-        }
-        for (int i = 0; i < x.count(8) && i < 30; i++) {
-            state.append((char) x.out(i));
-        }
-        return state.append(x.place()).append(' ').append(x.swept(0)).append(Due.stated(x)).append(Due.falls(x)).toString();
     }
 
     private static boolean mayThrow(int which) {
@@ -73,16 +72,16 @@ public final class AnyCallTest {
 
     private static void call(FigureTexts x, int which, int a, int b, int c, int d) {
         String name = "call " + which + " (" + a + ", " + b + ", " + c + ", " + d + ")";
-        String before = state(x);
+        String before = Due.seen(x);
         try {
             long answer = answer(x, which, a, b, c, d);
             if (answer <= FigureTexts.UNKNOWN && answer >= FigureTexts.SPENT) {
-                DUE.is("the state behind a refused " + name, state(x), before);
+                DUE.is("what is seen behind a refused " + name, Due.seen(x), before);
             }
         } catch (RuntimeException thrown) {
             DUE.is("what " + name + " throws", thrown.getClass().getName(), IndexOutOfBoundsException.class.getName());
             DUE.is("whether " + name + " may throw", mayThrow(which), true);
-            DUE.is("the state behind " + name, state(x), before);
+            DUE.is("what is seen behind " + name, Due.seen(x), before);
         }
     }
 
@@ -111,5 +110,36 @@ public final class AnyCallTest {
             case 20: return x.swept(a);
             default: return x.tried(a, b, c);
         }
+    }
+
+    /** All but the bytes of FALLS, which are other ones in the print. */
+    private static String told(FigureTexts x) {
+        StringBuilder text = new StringBuilder();
+        for (int what = 0; what <= 5; what++) {
+            text.append(x.count(what)).append(' ');
+        }
+        for (int i = 0; i < x.count(0); i++) {
+            text.append(x.kind(i)).append(':').append(x.leans(i)).append(':').append(x.number(i, 0, 0)).append('/').append(x.number(i, 0, 1)).append(' ');
+        }
+        for (int i = 0; i < x.count(2); i++) {
+            text.append(x.fall(i, 0)).append('!');
+        }
+        return text.append(Due.stated(x)).toString();
+    }
+
+    private void printedAgain() {
+        String text = "macro f(p,q){if x(p)<x(q){give mid(p,q);}give p;}a=free(1,2);b=free(3,-4/3);c=line(a,b);d=round(b,9);" + text(DEEDS, 9);
+        FigureTexts x = new FigureTexts();
+        Due.feed(x, text);
+        int nodes = x.read();
+        DUE.is("whether it is read: " + text, nodes > 0, true);
+        x.run();
+        String first = told(x);
+        int bytes = x.print();
+        DUE.is("back()", x.back(), bytes);
+        DUE.is("read() of the print of " + text, x.read(), nodes);
+        x.run();
+        DUE.is("what a RUN of the print tells of " + text, told(x), first);
+        DUE.is("the print of the print", x.print(), bytes);
     }
 }
