@@ -7,6 +7,7 @@ public final class Promise16SameTest {
         DUE.holds("like THINGS of unlike KINDS: POINT and FREE, LINE and SEGMENT", Promise16SameTest::unlikeKinds);
         DUE.holds("the very same ROW", Promise16SameTest::rows);
         DUE.holds("unlike in one FRACTION alone", Promise16SameTest::oneFraction);
+        DUE.holds("what an earlier RUN had is not asked", Promise16SameTest::earlierRun);
         DUE.holds("IndexOutOfBounds: i, j", Promise16SameTest::outOfBounds);
         DUE.end();
     }
@@ -48,6 +49,15 @@ public final class Promise16SameTest {
         allPairs(Due.run("draw round(point(1,2),3);draw round(point(1,2),4);draw round(point(2,2),3);draw round(point(1,1),3);"
             + "draw line(point(0,3),point(1,3));draw point(1,2);draw 1;draw 0;"), new int[][] {});
         allPairs(Due.run("draw line(point(1,0),point(1,1));draw round(point(1,0),1);"), new int[][] {});
+    }
+
+    private static void earlierRun() {
+        FigureTexts x = Due.run("a=free(0,0);o=point(0,0);if x(a){draw point(5,5);draw mid(point(5,5),point(5,5));draw 4;draw 4;}"
+            + "else{draw round(o,1);draw circle(o,point(3,2));draw seg(o,point(1,2));draw line(o,point(7,1));draw round(point(1,2),3);draw row(5);}");
+        DUE.is("DRAWN", x.count(0), 6);
+        x.move(0, 1, 1, 1);
+        x.run();
+        allPairs(x, new int[][] {{0, 1}, {2, 3}});
     }
 
     private static void outOfBounds() {

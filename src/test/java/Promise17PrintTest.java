@@ -67,6 +67,7 @@ public final class Promise17PrintTest {
         prints("state 1;draw 2;", "state 1;\ndraw 2;\n");
         prints("\n\nstate   1\n;\ndraw\n2 ; \n", "state 1;\ndraw 2;\n");
         prints("a=row(2);a[1-1]=1<2;", "a = row(2);\na[1 - 1] = 1 < 2;\n");
+        prints("a0=1;z9=a0;x0y9z=z9;", "a0 = 1;\nz9 = a0;\nx0y9z = z9;\n");
         prints("abcdefghij=1;draw abcdefghij;", "abcdefghij = 1;\ndraw abcdefghij;\n");
     }
 

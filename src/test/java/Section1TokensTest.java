@@ -66,6 +66,10 @@ public final class Section1TokensTest {
         DUE.faults("abcdefghij=1;draw abcdefghi;", 5, 18);
         DUE.faults("abcdefghi=1;draw abcdefghij;", 5, 17);
         DUE.reads("a1b2=1;draw a1b2;", 4);
+        DUE.does("a=1;a0=2;a9=3;a09=4;az=5;aa=6;a0a=7;draw a;draw a0;draw a9;draw a09;draw az;draw aa;draw a0a;", "1 2 3 4 5 6 7", "", "");
+        DUE.does("macro f0(){give 1;}macro f9(){give 2;}macro fz(){give 3;}draw f0();draw f9();draw fz();", "1 2 3", "", "");
+        DUE.faults("a0=1;draw a;", 5, 10);
+        DUE.faults("a9=1;draw a;", 5, 10);
         DUE.faults("A=1;", 1, 0);
         DUE.faults("aB=1;", 1, 1);
         DUE.faults("a_b=1;", 1, 1);
@@ -132,6 +136,8 @@ public final class Section1TokensTest {
         DUE.faults("macro", 2, 5);
         DUE.faults("macro 1(){}", 2, 6);
         DUE.faults("macro (){}", 2, 6);
+        DUE.faults("macro{}", 2, 5);
+        DUE.faults("macro 1{}", 2, 6);
         DUE.faults("macro f{}", 2, 7);
         DUE.faults("macro f(1){}", 2, 8);
         DUE.faults("macro f(,){}", 2, 8);

@@ -35,6 +35,7 @@ public final class Section3ToolsTest {
         DUE.holds("slope(l): -l.a / l.b", Section3ToolsTest::slopes);
         DUE.holds("on(p, w) of a LINE", Section3ToolsTest::onLine);
         DUE.holds("on(p, w) of a SEGMENT: between the ends' or one of them", Section3ToolsTest::onSegment);
+        DUE.holds("on(p, w) of a SEGMENT: all POINTS of a field", Section3ToolsTest::onSegmentsOfAField);
         DUE.holds("on(p, w) of a CIRCLE", Section3ToolsTest::onCircle);
         DUE.holds("flat(l, m)", Section3ToolsTest::flats);
         DUE.holds("right(l, m)", Section3ToolsTest::rights);
@@ -52,6 +53,8 @@ public final class Section3ToolsTest {
         DUE.holds("then asked from the left: NOTHING, CAST", Section3ToolsTest::askedFromTheLeft);
         DUE.holds("then the others as told", Section3ToolsTest::thenTheOthers);
         DUE.holds("LOST on the way, and what comes first", Section3ToolsTest::orderOfReckoning);
+        DUE.holds("all reckoning is as written: LOST though what comes of it would not be", Section3ToolsTest::lostAsWritten);
+        DUE.holds("all reckoning is as written: by NORMAL LINES", Section3ToolsTest::byNormalLines);
         DUE.end();
     }
 
@@ -294,6 +297,8 @@ public final class Section3ToolsTest {
 
     private static void parts() {
         makes("centre(round(q,1))", 1, "(4, 6)");
+        makes("centre(d)", 1, "(0, 0)");
+        makes("mid(centre(round(q,1)),centre(d))", "(2, 3)");
         makes("square(d)", 0, "25");
         makes("square(round(o,0))", 0, "0");
         makes("x(q)", 0, "4");
@@ -337,6 +342,24 @@ public final class Section3ToolsTest {
         makes("on(point(41/10,92/15),s)", "0");
     }
 
+    /** All POINTS of a small field, told by whole numbers alone. */
+    private static void onSegmentsOfAField() {
+        int[][] ends = {{1, 2, 3, 4}, {3, 4, 1, 2}, {0, 3, 4, 1}, {4, 1, 0, 3}, {1, 2, 3, 2}, {2, 1, 2, 4}, {0, 1, 4, 3}, {3, 0, 1, 4}};
+        for (int[] e : ends) {
+            StringBuilder text = new StringBuilder("s=seg(point(" + e[0] + "," + e[1] + "),point(" + e[2] + "," + e[3] + "));");
+            StringBuilder due = new StringBuilder();
+            for (int i = 0; i < 25; i++) {
+                int x = i / 5;
+                int y = i % 5;
+                boolean straight = (x - e[0]) * (e[3] - e[1]) == (y - e[1]) * (e[2] - e[0]);
+                boolean between = x >= Math.min(e[0], e[2]) && x <= Math.max(e[0], e[2]) && y >= Math.min(e[1], e[3]) && y <= Math.max(e[1], e[3]);
+                text.append("state on(point(").append(x).append(',').append(y).append("),s);");
+                due.append(i > 0 ? " " : "").append(straight && between ? 1 : 0);
+            }
+            DUE.does(text.toString(), "", due.toString(), "");
+        }
+    }
+
     private static void onCircle() {
         makes("on(point(3,4),d)", "1");
         makes("on(point(3,3),d)", "0");
@@ -361,6 +384,14 @@ public final class Section3ToolsTest {
         makes("right(m,v)", 0, "1");
         makes("right(l,perp(o,l))", 0, "1");
         makes("right(s,perp(o,l))", 0, "1");
+        makes("right(v,m)", 0, "1");
+        makes("right(perp(o,l),l)", 0, "1");
+        makes("right(line(o,point(1,1)),line(o,point(1,-1)))", "1");
+        makes("right(line(o,point(1,1)),line(o,point(1,1)))", "0");
+        makes("right(line(o,point(1,1)),m)", "0");
+        makes("right(m,line(o,point(1,-1)))", "0");
+        makes("right(v,line(o,point(1,1)))", "0");
+        makes("right(m,m)", "0");
         makes("right(l,m)", 0, "0");
         makes("right(l,l)", 0, "0");
     }
@@ -611,5 +642,42 @@ public final class Section3ToolsTest {
         fails("scale(point(999999999,0),o,2)", Due.LOST, 0);
         fails("par(point(999999999,999999999),line(o,point(1,-1)))", Due.LOST, 0);
         fails("line(point(999999999,0),point(-999999999,1))", Due.LOST, 0);
+    }
+
+    /** Of each of these what is asked for could be told by other ways of reckoning. */
+    private static void lostAsWritten() {
+        fails("turn(point(0,999999999),point(999999999,-999999999))", Due.LOST, 0);
+        fails("turn(point(999999999,0),point(-999999999,-999999999))", Due.LOST, 0);
+        fails("scale(o,point(-999999999,0),2)", Due.LOST, 0);
+        fails("scale(o,point(0,-999999999),2)", Due.LOST, 0);
+        fails("mirror(point(600000001,0),line(point(600000000,0),point(600000000,1)))", Due.LOST, 0);
+        fails("mirror(point(0,600000001),line(point(0,600000000),point(1,600000000)))", Due.LOST, 0);
+        fails("line(point(40000,40000),o)", Due.LOST, 0);
+        makes("line(o,point(40000,40000))", "[1, -1, 0]");
+        fails("seg(point(40000,40000),o)", Due.LOST, 0);
+        makes("seg(o,point(40000,40000))", "[1, -1, 0]");
+        fails("half(seg(point(999999999,0),point(999999998,1)))", Due.LOST, 0);
+        fails("meet(line(point(999999999,0),point(999999997,1)),line(point(-999999999,0),point(-999999997,1)))", Due.LOST, 0);
+        fails("area(o,point(40000,40000),point(40000,40000))", Due.LOST, 0);
+        fails("power(point(31623,0),round(o,999999999))", Due.LOST, 0);
+        fails("polar(point(3,4),round(point(1,5),999999999))", Due.LOST, 0);
+        fails("polar(point(3,6),round(point(1,-5),999999999))", Due.LOST, 0);
+        fails("invert(point(1/31623,0),round(o,1))", Due.LOST, 0);
+        makes("invert(point(1/31622,0),round(o,1))", "(31622, 0)");
+        fails("on(point(999999999,999999999),line(o,point(1,-1)))", Due.LOST, 0);
+        fails("on(point(40000,0),round(o,1))", Due.LOST, 0);
+        fails("right(line(o,point(40000,-1)),line(o,point(40000,-1)))", Due.LOST, 0);
+        fails("circle(point(31623,0),o)", Due.LOST, 0);
+    }
+
+    private static void byNormalLines() {
+        makes("foot(point(4,0),line(o,point(-31874,2)))", "(507975938/126993985, -31874/126993985)");
+        makes("foot(point(95,80),line(o,point(3419,72)))", "(226040347/2338949, 4760136/2338949)");
+        fails("foot(point(-4,502247362/9),line(o,point(-4,8)))", Due.LOST, 0);
+        fails("ring(point(0,384818),point(0,378),point(0,651))", Due.ZERO, 0);
+        fails("ring(point(4045,-2778),o,o)", Due.LOST, 0);
+        fails("ring(point(13954,6887),point(8,0),point(8,0))", Due.LOST, 0);
+        fails("cut(line(o,point(-2,86)),round(point(26,0),85),1)", Due.ABSENT, 0);
+        fails("cut(line(o,point(8,63)),round(point(5,85),35/1369),0)", Due.ABSENT, 0);
     }
 }

@@ -321,6 +321,11 @@ public final class Section4RunTest {
         DUE.is("what comes at last", Due.drawn(x), "1");
         DUE.does("macro f(p){give p+1;}draw f(f(f(f(f(f(f(f(f(f(0))))))))));", "10", "", "");
         DUE.does(eight + "macro f(p,q){give p+q;}draw f(mh(),mh());", "16", "", "");
+        StringBuilder named = new StringBuilder("macro ma(p){q=p;give q;}");
+        for (char m = 'b'; m <= 'h'; m++) {
+            named.append("macro m").append(m).append("(p){q=p;r=m").append((char) (m - 1)).append("(q+1);give r+q;}");
+        }
+        DUE.does(named + "draw mh(5);", "68", "", "");
         String arguments = "macro na(p){give p;}" + chain(7).replace("give 1;", "give na(1/0);") + "draw none(mg());";
         DUE.is("its arguments are worked out first", Due.run(arguments).fall(0, 0), Due.ZERO);
     }
@@ -387,6 +392,10 @@ public final class Section4RunTest {
         FigureTexts v = Due.read("times 394{}draw 1/0;");
         DUE.is("behind one that FAILS", v.run(), 0);
         DUE.is("its FALL", v.count(2), 1);
+        FigureTexts full = Due.read("times 40{draw 1;}times 276{}draw 2;");
+        DUE.is("at a draw without ROOM", full.run(), Due.NONE);
+        DUE.is("STEPS", full.count(4), 400);
+        DUE.is("no FALL", full.count(2), 0);
         DUE.is("many turns", Due.read("times 999999999{}").run(), Due.NONE);
         DUE.is("turns within turns", Due.read("times 99{times 99{times 99{a=1;}}}").run(), Due.NONE);
         DUE.is("in a macro", Due.read("macro f(){times 500{}give 1;}draw f();").run(), Due.NONE);
