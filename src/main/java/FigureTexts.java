@@ -355,7 +355,7 @@ public final class FigureTexts {
     }
 
     private void layOnTape(int four) {
-        for (int shift = 24; shift >= 0 && tapeLength < TAPE_ROOM; shift -= 8) {
+        for (int shift = 24; shift >= 0 && inside(tapeLength, TAPE_ROOM); shift -= 8) {
             tape[tapeLength] = (byte) (four >> shift);
             tapeLength++;
         }
