@@ -17,6 +17,7 @@ public final class Promise04ReadTest {
         DUE.holds("a FAULT without a FIGURE: there is none then either", Promise04ReadTest::faultWithoutFigure);
         DUE.holds("THE OUT stays", Promise04ReadTest::outStays);
         DUE.holds("texts one behind another", Promise04ReadTest::readingOften);
+        DUE.holds("nothing is read behind the text's end", Promise04ReadTest::nothingBehindTheEnd);
         DUE.end();
     }
 
@@ -197,5 +198,28 @@ public final class Promise04ReadTest {
                 DUE.is("DRAWN behind " + texts[i], Due.drawn(x), drawn[i]);
             }
         }
+    }
+
+    private static void readsBehind(String longer, String text, int fault, int place) {
+        FigureTexts x = new FigureTexts();
+        for (int i = 0; i < 2; i++) {
+            Due.feed(x, longer);
+            DUE.is("whether the longer text is faulty", x.read() < 0, true);
+            Due.feed(x, text);
+            DUE.is("read() of " + text + " behind " + longer, x.read(), -fault);
+            DUE.is("place() of " + text, x.place(), place);
+        }
+    }
+
+    /** An earlier, longer text goes on where this one ends. */
+    private static void nothingBehindTheEnd() {
+        readsBehind("a=1;elsex=1;$", "a=1;else", 2, 4);
+        readsBehind("macro f(){givex=1;$", "macro f(){give", 2, 14);
+        readsBehind("a=1;draw ab;$", "a=1;draw a", 2, 10);
+        readsBehind("a=1;draw a0;$", "a=1;draw a", 2, 10);
+        readsBehind("macro x1(){}$", "macro x", 4, 6);
+        readsBehind("a=12345;$$$$$", "a=12", 2, 4);
+        readsBehind("a=1;;;;;;$", "a=1;", 0 - 2, Due.NONE);
+        readsBehind("$$$$$$$$$$", "", 0, Due.NONE);
     }
 }
